@@ -37,6 +37,7 @@ public final class PetalWheels {
     private final int[] pointRow = new int[POINTS];
     private final int[] toothRow = new int[MOST_TEETH];
     private final int[] inkRow = new int[MOST_INK + 1];
+    private boolean inkRowNoted = false;
 
     public PetalWheels() {
     }
@@ -245,8 +246,10 @@ public final class PetalWheels {
         if (!told.hasPen(p) || !within(what, 0, 1)) {
             return BAD;
         }
-        int ink = Math.min(paper.inkOf(p), MOST_INK);
-        noteMostPetals(ink);
+        if (!inkRowNoted) {
+            noteMostPetals();
+        }
+        int ink = Math.min(Math.max(paper.inkOf(p), 0), MOST_INK);
         int most = inkRow[ink];
         if (what == 0) {
             return most;
@@ -265,8 +268,8 @@ public final class PetalWheels {
             return BAD;
         }
         int points = 0;
-        for (int point = 0; point < POINTS; point++) {
-            if (one.hasTip(point, one.hole) && other.hasTip(point, one.hole)) {
+        for (int petal = 0; petal < one.petals; petal++) {
+            if (other.hasTip(one.pointOf(petal), one.hole)) {
                 points++;
             }
         }
@@ -433,6 +436,7 @@ public final class PetalWheels {
         told = next;
         paper = new Paper(0, next.inkTold(), new Curve[0], null);
         undos = 0;
+        inkRowNoted = false;
         sights.empties();
         for (int i = 0; i < IMAGES; i++) {
             imagePaper[i] = null;
@@ -487,8 +491,10 @@ public final class PetalWheels {
     private int pointsOfPen(int p) {
         int points = 0;
         for (int line = 1; line <= LINES; line++) {
-            notePens(line);
-            points += pointsNoted(p);
+            if (paper.hasCurveIn(line)) {
+                notePens(line);
+                points += pointsNoted(p);
+            }
         }
         return points;
     }
@@ -496,8 +502,10 @@ public final class PetalWheels {
     private int pointsShown() {
         int points = 0;
         for (int line = 1; line <= LINES; line++) {
-            noteShown(line);
-            points += POINTS - pointsNoted(NONE);
+            if (paper.hasCurveIn(line)) {
+                noteShown(line);
+                points += POINTS - pointsNoted(NONE);
+            }
         }
         return points;
     }
@@ -505,9 +513,11 @@ public final class PetalWheels {
     /** The turns that leave a LINE the same are those by 360 by the divisors of one number: LINES share its divisors. */
     private int like() {
         int parts = POINTS;
-        for (int line = 1; line <= LINES && parts > 1; line++) {
-            notePens(line);
-            parts = greatestDivisor(parts, likeOfRow());
+        for (int line = 1; line <= LINES; line++) {
+            if (paper.hasCurveIn(line)) {
+                notePens(line);
+                parts = greatestDivisor(parts, likeOfRow());
+            }
         }
         return parts;
     }
@@ -566,25 +576,24 @@ public final class PetalWheels {
         return false;
     }
 
-    /** Notes in inkRow, for each INK up to that, the most PETALS by twos that are all together so LONG at most. */
-    private void noteMostPetals(int ink) {
+    /** Notes in inkRow, for each INK, the most PETALS by it. That holds for all PENS, until the text is read anew. */
+    private void noteMostPetals() {
         Arrays.fill(inkRow, 0);
         for (int r = 0; r < told.rings; r++) {
             for (int w = 0; w < told.wheels; w++) {
                 if (told.fits(r, w)) {
-                    addTwo(told.longOf(r, w), told.petalsOf(r, w), ink);
+                    addTwo(told.longOf(r, w), told.petalsOf(r, w));
                 }
             }
         }
+        inkRowNoted = true;
     }
 
     /** Goes down, so that no two is taken twice. */
-    private void addTwo(int length, int petals, int ink) {
-        for (int total = Math.min(ink, MOST_INK); total >= length && total >= 0; total--) {
-            int left = total - length;
-            if (left >= 0 && left < inkRow.length) {
-                inkRow[total] = Math.max(inkRow[total], inkRow[left] + petals);
-            }
+    private void addTwo(int length, int petals) {
+        int least = Math.max(length, 0);
+        for (int ink = MOST_INK; ink >= least; ink--) {
+            inkRow[ink] = Math.max(inkRow[ink], inkRow[ink - least] + petals);
         }
     }
 
@@ -619,14 +628,19 @@ public final class PetalWheels {
     /** Notes in toothRow by how many of the guesses there is a TIP at each TOOTH. */
     private void noteGuessesByTooth(int r) {
         Arrays.fill(toothRow, 0);
-        int teeth = Math.min(told.teethOf(r), toothRow.length);
         for (int w = 0; w < told.wheels; w++) {
             if (told.fits(r, w)) {
-                int divisor = told.divisorOf(r, w);
-                for (int t = 0; t < teeth; t++) {
-                    if (sights.agree(teeth, divisor, rest(t, divisor))) {
-                        toothRow[t] += told.petalsOf(r, w);
-                    }
+                addGuesses(told.teethOf(r), told.divisorOf(r, w), told.petalsOf(r, w));
+            }
+        }
+    }
+
+    private void addGuesses(int teeth, int divisor, int petals) {
+        int step = Math.max(divisor, 1);
+        for (int start = 0; start < divisor; start++) {
+            if (sights.agree(teeth, divisor, start)) {
+                for (int t = start; t < teeth && t < toothRow.length; t += step) {
+                    toothRow[t] += petals;
                 }
             }
         }
@@ -940,6 +954,15 @@ public final class PetalWheels {
 
         Curve curveAt(int k) {
             return k >= 0 && k < curves.length ? curves[k] : null;
+        }
+
+        boolean hasCurveIn(int line) {
+            for (int k = 0; k < curves.length; k++) {
+                if (curves[k].hole == line) {
+                    return true;
+                }
+            }
+            return false;
         }
 
         Paper drawn(Curve c, int length) {
