@@ -414,7 +414,7 @@ public final class PetalWheels {
 
     /** What is left over, never below 0. */
     private static int rest(int n, int by) {
-        return by == 0 ? 0 : Math.floorMod(n, by);
+        return by <= 0 ? 0 : Math.floorMod(n, by);
     }
 
     /** The counter only bounds the loop: numbers as small as these need a dozen rounds at most. */

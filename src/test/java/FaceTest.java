@@ -97,6 +97,9 @@ public final class FaceTest {
             is.holds(c + " is static", Modifier.isStatic(c.getModifiers()));
             is.holds(c + " is not public", !Modifier.isPublic(c.getModifiers()));
             is.holds(c + " has some twenty fields", c.getDeclaredFields().length <= 20);
+            for (Method m : c.getDeclaredMethods()) {
+                is.holds(m + " has a name of its own", !Arrays.toString(METHODS).contains(" " + m.getName() + "("));
+            }
         }
     }
 

@@ -155,6 +155,8 @@ public final class PromisesTest {
         is.due("4 two letters", fault(" pp 1;"), -11);
         is.due("4 letters of no item", fault("p1;x1;"), -13);
         is.due("4 an item's letter and another", fault("p1;  ra 12;"), -15);
+        is.due("4 z is a letter", fault("rz12;"), -10);
+        is.due("4 a is a letter", fault("ra12;"), -10);
         is.due("4 a number first", fault(" 12;"), -11);
         is.due("4 ; first", fault("p1;;"), -13);
         is.due("4 letters for a number", fault("p p;"), -12);
@@ -447,6 +449,9 @@ public final class PromisesTest {
         x.rubs(3);
         x.draws(0, 2, 1, 0, 0);
         is.due("14 like: two of four by the same pen", x.now(3), 4);
+        PetalWheels u = Checks.told("r12;w3;p99;");
+        u.draws(0, 0, 9, 0, 0);
+        is.due("14 like: in the last line", u.now(3), 4);
         PetalWheels y = Checks.told("r120;r45;w7;w8;p999;p999;");
         y.draws(0, 0, 5, 0, 0);
         is.due("14 like: 120 petals", y.now(3), 120);
@@ -516,6 +521,8 @@ public final class PromisesTest {
         is.due("17 line 10", x.closes(0, 10, 0), BAD);
         is.due("17 what", x.closes(0, 1, 2), BAD);
         is.due("17 what below", x.closes(0, 1, -1), BAD);
+        closesByTheFirst();
+        closesOneTooth();
         PetalWheels y = Checks.told("r12;w12;w99;p0;");
         is.due("17 none fits", y.closes(0, 1, 0), NONE);
         is.due("17 no wheel", y.closes(0, 1, 1), NONE);
@@ -524,6 +531,34 @@ public final class PromisesTest {
         is.due("17 none fits, none is needed", z.closes(0, 4, 0), 0);
         is.due("17 none needed, no wheel", z.closes(0, 4, 1), NONE);
         is.due("17 one by another ring, without ink or room", z.closes(1, 5, 0), 1);
+    }
+
+    private static void closesByTheFirst() {
+        PetalWheels x = Checks.told("r12;w3;w9;w4;p999;");
+        is.due("17 the first wheel, as good as the second", x.closes(0, 1, 1), 0);
+        x.spins(30);
+        x.draws(0, 2, 1, 0, 0);
+        x.draws(0, 2, 1, 1, 0);
+        x.draws(0, 2, 1, 2, 0);
+        x.spins(5);
+        x.draws(0, 0, 1, 0, 0);
+        x.draws(0, 0, 1, 1, 0);
+        is.due("17 turned: one class is left by the first", x.closes(0, 1, 0), 1);
+        is.due("17 turned: by the first", x.closes(0, 1, 1), 0);
+    }
+
+    /** A tip at each tooth but one, which is tooth 6 at first, and tooth 0 when the paper has been turned half round. */
+    private static void closesOneTooth() {
+        PetalWheels x = Checks.told("r12;r24;w6;w8;w11;p999;");
+        for (int start = 1; start < 6; start++) {
+            x.draws(0, 0, 1, start, 0);
+        }
+        is.due("17 the class of tooth 0 is left", x.closes(0, 1, 0), 1);
+        x.draws(1, 1, 1, 0, 0);
+        is.due("17 tooth 6 is left", x.closes(0, 1, 0), 1);
+        x.spins(180);
+        is.due("17 it is tooth 0 now", x.closes(0, 1, 0), 1);
+        is.due("17 by the lowest", x.closes(0, 1, 1), 0);
     }
 
     private static void promise18Best() {
