@@ -202,7 +202,8 @@ public final class PetalWheels {
             return BAD;
         }
         for (int k = paper.curves.length - 1; k >= 0; k--) {
-            if (paper.curves[k].hasTip(point, line)) {
+            Curve c = paper.curveAt(k);
+            if (c != null && c.hasTip(point, line)) {
                 return k;
             }
         }
@@ -455,8 +456,8 @@ public final class PetalWheels {
     private void noteShown(int line) {
         Arrays.fill(pointRow, NONE);
         for (int k = 0; k < paper.curves.length; k++) {
-            Curve c = paper.curves[k];
-            if (c.hole == line) {
+            Curve c = paper.curveAt(k);
+            if (c != null && c.hole == line) {
                 for (int petal = 0; petal < c.petals; petal++) {
                     pointRow[c.pointOf(petal)] = k;
                 }
@@ -958,7 +959,8 @@ public final class PetalWheels {
 
         boolean hasCurveIn(int line) {
             for (int k = 0; k < curves.length; k++) {
-                if (curves[k].hole == line) {
+                Curve c = curveAt(k);
+                if (c != null && c.hole == line) {
                     return true;
                 }
             }

@@ -2,12 +2,20 @@
 final class Checks {
     private int asked = 0;
     private int wrong = 0;
+    private int sentences = 0;
+    private String sentence = "";
+
+    /** What is asked from here on is asked because of that sentence of the document. */
+    void about(String sentence) {
+        this.sentence = sentence + " | ";
+        sentences++;
+    }
 
     void due(String call, long got, long want) {
         asked++;
         if (got != want) {
             wrong++;
-            System.out.println(call + " answered " + got + ", due is " + want);
+            System.out.println(sentence + call + " answered " + got + ", due is " + want);
         }
     }
 
@@ -16,7 +24,7 @@ final class Checks {
     }
 
     void end() {
-        System.out.println(asked + " asked, " + wrong + " wrong");
+        System.out.println((sentences > 0 ? sentences + " sentences, " : "") + asked + " asked, " + wrong + " wrong");
         if (wrong != 0) {
             System.exit(1);
         }

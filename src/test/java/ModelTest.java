@@ -231,46 +231,13 @@ public final class ModelTest {
             return;
         }
         calls++;
-        long got = answer(name, a, b, c, d, e);
+        long got = new Call(name, a, b, c, d, e).put(x);
         long want = due(name, a, b, c, d, e);
         if (got != want) {
             is.due("run " + run + ", call " + calls + ": " + name + "(" + a + ", " + b + ", " + c + ", " + d + ", " + e + ")", got, want);
             calls = CALLS;
         } else {
             is.due(name, got, want);
-        }
-    }
-
-    private long answer(String name, int a, int b, int c, int d, int e) {
-        switch (name) {
-            case "type": return x.type(a);
-            case "clear": return x.clear();
-            case "box": return x.box();
-            case "ring": return x.ring(a);
-            case "wheel": return x.wheel(a, b, c);
-            case "pen": return x.pen(a, b);
-            case "curve": return x.curve(a, b);
-            case "draws": return x.draws(a, b, c, d, e);
-            case "rubs": return x.rubs(a);
-            case "spins": return x.spins(a);
-            case "fills": return x.fills(a, b);
-            case "undo": return x.undo();
-            case "now": return x.now(a);
-            case "shown": return x.shown(a, b);
-            case "petals": return x.petals(a, b);
-            case "closes": return x.closes(a, b, c);
-            case "best": return x.best(a, b);
-            case "meet": return x.meet(a, b);
-            case "odds": return x.odds(a, b, c, d);
-            case "sees": return x.sees(a, b);
-            case "forget": return x.forget();
-            case "guess": return x.guess(a, b);
-            case "look": return x.look(a);
-            case "mark": return x.mark(a, b);
-            case "keep": return x.keep(a);
-            case "back": return x.back(a);
-            case "count": return x.count(a);
-            default: return x.trace();
         }
     }
 
