@@ -54,8 +54,11 @@ public final class AnswerEdgesTest {
         for (String call : calls) {
             rich.isAskedFreely(call);
         }
+        // What was asked of a larger ring is not left over for a smaller one.
+        Run rings = told("r12;r24;w6;p999;").then("draws 0 0 1 0 0").due("closes 0 1 0", 5);
+        rings.isAskedFreely("closes 1 2 0").then("guess 1 0", "look 1").due("closes 0 1 0", 5);
         // A set that is best for one box is not the one that is best for the next.
-        Run best = rich.then("best 0 0").told("r12;w3;p999;p0;").due("best 0 0", 4).due("best 1 0", 0);
+        Run best = Rich.with(is, "").then("best 0 0").told("r12;w3;p999;p0;").due("best 0 0", 4).due("best 1 0", 0);
         best.then("best 0 0").told("r12;w11;p999;").due("best 0 0", 12).due("best 0 1", 132);
     }
 
@@ -97,6 +100,14 @@ public final class AnswerEdgesTest {
         }
         five.due("closes 0 9 0", 1).due("closes 0 9 1", 0).due("closes 0 8 1", 0);
         five.then("draws 0 2 9 11 0").due("closes 0 9 0", 0).due("closes 0 9 1", NONE);
+        // One tooth alone is bare: 0, as ring 24's tips stand at 60, 180 and 300; then 6, at 0, 120 and 240.
+        Run but0 = told("r12;r24;w6;w8;p999;");
+        for (int start = 1; start <= 5; start++) {
+            but0 = but0.then("draws 0 0 1 " + start + " 0");
+        }
+        but0.then("draws 1 1 1 4 0").due("closes 0 1 0", 1).due("closes 0 1 1", 0);
+        but0.then("draws 1 1 1 0 0").due("closes 0 1 0", 1).due("closes 0 1 1", 0);
+        but0.then("draws 1 1 1 0 0", "draws 1 1 1 4 0").due("closes 0 1 0", 0).due("closes 0 1 1", NONE);
     }
 
     private static void closesNoneFits() {
@@ -133,6 +144,8 @@ public final class AnswerEdgesTest {
         all.then("spins 330").due("closes 0 1 0", 0);
         Run one = told("r12;w6;p999;").then("spins 345", "draws 0 0 1 11 0").due("closes 0 1 0", 5).then("spins 330").due("closes 0 1 0", 5);
         one.then("spins 1").due("closes 0 1 0", 6);
+        Run turned = told("r12;w6;p999;").then("spins 1", "draws 0 0 1 0 0").due("closes 0 1 0", 5).then("spins 30").due("closes 0 1 0", 5);
+        turned.then("spins 328").due("now 0", 359).due("closes 0 1 0", 6).then("spins 2").due("closes 0 1 0", 5);
         // Covered ones count as well, as something is there all the same.
         all.then("draws 0 1 1 0 0").due("closes 0 1 0", 0).then("rubs 0").due("closes 0 1 0", 1).due("closes 0 1 1", 0);
     }
@@ -272,6 +285,9 @@ public final class AnswerEdgesTest {
         told("r12;w3;w9;").then("sees 1 1").due("guess 0 0", 8).due("look 0", NONE);
         told("r12;w3;").then("sees 0 0", "sees 1 0").due("guess 0 0", 4).due("look 0", NONE);
         told("r12;w3;").then("sees 0 0").due("guess 0 0", 8).due("look 0", 1);
+        // A wheel that does not fit would part them.
+        Run fits = told("r12;w6;w12;w24;").then("sees 0 0", "sees 1 0", "sees 2 0", "sees 3 0");
+        fits.due("guess 0 0", 4).due("look 0", 4).then("sees 4 0").due("guess 0 0", 2).due("look 0", NONE);
     }
 
     private static void lookLeast() {

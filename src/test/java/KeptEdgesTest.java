@@ -151,7 +151,7 @@ public final class KeptEdgesTest {
 
     private static void readAnewAsTold() {
         is.about("Read anew: as told, no CURVES, it LIES 0");
-        Run anew = Rich.run(is).told("r24;w5;p7;").due("now 0", 0).due("now 1", 0).due("now 2", 0).due("now 3", 360);
+        Run anew = Rich.with(is, "").told("r24;w5;p7;").due("now 0", 0).due("now 1", 0).due("now 2", 0).due("now 3", 360);
         anew.due("ring 0", 24).due("wheel 0 0 0", 5).due("pen 0 0", 7).refuses("curve 0 0", BAD).refuses("ring 1", BAD).refuses("pen 1 0", BAD);
         anew.refuses("wheel 0 1 0", BAD).due("shown 0 1", NONE).due("mark 0 0", NO);
         // But for THE TRACE it is as an object that has read nothing else.

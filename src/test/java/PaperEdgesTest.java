@@ -26,15 +26,18 @@ public final class PaperEdgesTest {
         rubbed();
         laterOnesNumberedLess();
         turned();
+        howItLies();
         turnedLeftOver();
         filled();
         filledAtMost();
         filledState();
         latestShows();
+        shownOrNone();
         undoneNone();
         undoneAsAhead();
         tenAreKnown();
         refusedIsNotUndone();
+        firstOfThese();
         nowWhat();
         is.end();
     }
@@ -238,6 +241,12 @@ public final class PaperEdgesTest {
         Rich.run(is).bounds("spins #", 1, 359, BAD);
     }
 
+    private static void howItLies() {
+        is.about("TURNED: how it LIES. BAD.");
+        Rich.run(is).due("now 0", 10).due("spins 1", 11).due("spins 349", 359).due("spins 350", 0).due("spins 351", 1).due("spins 359", 9);
+        Rich.run(is).refuses("spins 0", BAD).refuses("spins -1", BAD).refuses("spins -350", BAD).refuses("spins 360", BAD).refuses("spins 720", BAD);
+    }
+
     private static void turnedLeftOver() {
         is.about("THE PAPER LIES n more (left over by 360)");
         Run one = Run.fresh(is).then("spins 1").due("spins 357", 358).due("spins 358", 359).due("spins 359", 0);
@@ -282,6 +291,14 @@ public final class PaperEdgesTest {
         two.then("rubs 1").due("shown 0 1", 0).due("shown 120 1", NONE);
         two.then("rubs 0").due("shown 0 1", 0).due("shown 90 1", NONE).due("shown 120 1", 0);
         two.times(10, "draws 0 0 1 0 0").due("shown 0 1", 11).due("shown 120 1", 1);
+    }
+
+    private static void shownOrNone() {
+        is.about("SHOWN; NONE. BAD.");
+        Run.fresh(is).refuses("shown 0 0", BAD).refuses("shown 360 9", BAD).refuses("shown -1 10", BAD).due("shown 0 9", NONE);
+        Run run = told("r12;w11;p999;").then("draws 0 0 5 0 0").due("shown 0 5", 0).due("shown 330 5", 0);
+        run.due("shown 1 5", NONE).due("shown 331 5", NONE).due("shown 359 5", NONE).due("shown 0 4", NONE).due("shown 0 6", NONE);
+        run.bounds("shown # 5", 0, 359, BAD).bounds("shown 330 #", 1, 9, BAD).then("rubs 0").due("shown 0 5", NONE);
     }
 
     private static void undoneNone() {
@@ -331,6 +348,22 @@ public final class PaperEdgesTest {
         }
         ten.then("fills 0 999").refuses("fills 0 1", STATE).due("count 4", 10);
         ten.times(10, "undo").refuses("undo", STATE).due("now 1", 0);
+    }
+
+    private static void firstOfThese() {
+        is.about("the first of these: BAD (a number is not as told, or there is no such thing), STATE (as told), FULL.");
+        Run full = told("r12;w3;w12;p999;p0;").times(12, "draws 0 0 1 0 0").then("fills 0 999").times(6, "sees 0 0").times(100, "type 32");
+        String[] bad = {
+            "draws 0 1 10 0 1", "draws 0 0 10 0 1", "draws 0 0 10 0 0", "draws 0 1 1 12 0", "fills 0 1000", "fills 0 0", "fills 2 0",
+            "odds 0 1 360 0", "odds 0 1 0 2", "back 2", "back -1", "sees 120 0", "sees 0 2", "type 256", "type -1"};
+        for (String call : bad) {
+            full.refuses(call, BAD);
+        }
+        String[] state = {"draws 0 1 1 0 0", "draws 0 0 1 0 1", "draws 0 1 1 0 1", "fills 0 1", "odds 0 1 0 0", "back 0", "back 1"};
+        for (String call : state) {
+            full.refuses(call, STATE);
+        }
+        full.refuses("draws 0 0 1 0 0", FULL).refuses("sees 0 1", FULL).refuses("type 32", FULL);
     }
 
     private static void nowWhat() {

@@ -13,6 +13,7 @@ public final class TextEdgesTest {
         calls512();
         newObject();
         rings();
+        ofRing();
         teeth();
         wheels();
         cogs();
@@ -98,6 +99,15 @@ public final class TextEdgesTest {
         fresh().told("r12;r15;r18;r20;").due("count 0", 4).due("ring 0", 12).due("ring 3", 20).bounds("ring #", 0, 3, BAD);
         faults("r12;r15;r18;r20;r24;", 16);
         faults("w3;r12;r15;p1;r18;r20;  r24;", 24);
+    }
+
+    private static void ofRing() {
+        is.about("TEETH of a RING. BAD.");
+        fresh().refuses("ring 0", BAD).refuses("ring -1", BAD);
+        fresh().told("w3;p1;").refuses("ring 0", BAD);
+        Rich.run(is).bounds("ring #", 0, 1, BAD).due("ring 0", 12).due("ring 1", 24);
+        // What was told ahead is not there any more.
+        Rich.with(is, "").told("r120;").due("ring 0", 120).refuses("ring 1", BAD);
     }
 
     private static void teeth() {
@@ -187,10 +197,10 @@ public final class TextEdgesTest {
 
     private static void cleared() {
         is.about("THE TEXT is empty: how many bytes it had.");
-        Rich.run(is).refuses("clear", 0);
-        Rich.with(is, "x").due("clear", 1).then("clear").isAs("cleared", Rich.run(is));
-        Rich.with(is, blanks(99)).due("clear", 99).then("clear").isAs("cleared", Rich.run(is));
-        Rich.with(is, blanks(100)).due("clear", 100).then("clear").isAs("cleared", Rich.run(is)).refuses("clear", 0);
+        Rich.with(is, "").refuses("clear", 0);
+        Rich.with(is, "x").due("clear", 1).then("clear").isAs("cleared", Rich.with(is, ""));
+        Rich.with(is, blanks(99)).due("clear", 99).then("clear").isAs("cleared", Rich.with(is, ""));
+        Rich.with(is, blanks(100)).due("clear", 100).then("clear").isAs("cleared", Rich.with(is, "")).refuses("clear", 0);
     }
 
     private static void blanks() {
