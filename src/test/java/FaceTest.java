@@ -9,6 +9,7 @@ import java.util.Arrays;
 import java.util.HashSet;
 import java.util.Set;
 import java.util.TreeSet;
+import java.util.regex.Matcher;
 import java.util.regex.Pattern;
 
 /** The document's face, no member more and none less, and those rules of LANGUAGE.md that can be read off the file. */
@@ -23,7 +24,10 @@ public final class FaceTest {
     private static final String[] CONSTANTS = {"BAD", "STATE", "FULL", "NONE", "NO"};
     private static final String[] WORDS = {
         "throw", "throws", "try", "catch", "synchronized", "assert", "package", "protected", "Object", "hashCode", "toString",
-        "Exact", "double", "float", "random", "System", "Thread", "native", "volatile", "transient"};
+        "\\w+Exact", "double", "float", "random", "System", "Thread", "native", "volatile", "transient"};
+
+    private static final Set<String> LIBRARY = Set.of("Math.min", "Math.max", "Math.floorMod", "Arrays.fill", "Arrays.copyOf");
+    private static final int MOST_LINES = 60;
 
     private static final Checks is = new Checks();
 
@@ -97,7 +101,11 @@ public final class FaceTest {
             is.holds(c + " is static", Modifier.isStatic(c.getModifiers()));
             is.holds(c + " is not public", !Modifier.isPublic(c.getModifiers()));
             is.holds(c + " has some twenty fields", c.getDeclaredFields().length <= 20);
+            for (Constructor<?> made : c.getDeclaredConstructors()) {
+                is.holds(made + " takes seven at most", made.getParameterCount() <= 7);
+            }
             for (Method m : c.getDeclaredMethods()) {
+                is.holds(m + " takes seven at most", m.getParameterCount() <= 7);
                 is.holds(m + " has a name of its own", !Arrays.toString(METHODS).contains(" " + m.getName() + "("));
             }
         }
@@ -115,6 +123,31 @@ public final class FaceTest {
             is.holds("no " + word, !Pattern.compile("\\b" + word + "\\b").matcher(code).find());
         }
         is.holds("no lambda, no method reference", !code.contains("->") && !code.contains("::"));
+        is.holds("no static block", !Pattern.compile("\\bstatic\\s*\\{").matcher(code).find());
+        Matcher used = Pattern.compile("\\b(Math|Arrays|Integer|Long|String|StringBuilder|List|ArrayList)\\.\\w+").matcher(code);
+        while (used.find()) {
+            is.holds(used.group() + " is in the library", LIBRARY.contains(used.group()));
+        }
+        shortMethods(file);
         is.holds("no library but Arrays", code.split("import ").length == 2 && code.contains("import java.util.Arrays;"));
+    }
+
+    /** A method begins with its head, which ends in ") {", and ends with a brace as far in as that head. */
+    private static void shortMethods(String file) {
+        String[] lines = file.split("\n");
+        Pattern head = Pattern.compile("( {4}| {8})[A-Za-z].*\\) \\{");
+        int methods = 0;
+        for (int i = 0; i < lines.length; i++) {
+            Matcher m = head.matcher(lines[i]);
+            if (m.matches() && !lines[i].trim().matches("(if|for|while|switch|do)\\b.*")) {
+                int end = i;
+                while (end < lines.length && !lines[end].equals(m.group(1) + "}")) {
+                    end++;
+                }
+                methods++;
+                is.holds(lines[i].trim() + " has " + (end - i + 1) + " lines", end - i + 1 <= MOST_LINES);
+            }
+        }
+        is.holds("methods were found: " + methods, methods >= METHODS.length + 1);
     }
 }
