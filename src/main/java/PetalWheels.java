@@ -27,10 +27,9 @@ public final class PetalWheels {
     private final Text text = new Text();
     private final Sights sights = new Sights();
     private Box told = new Box();
-    private Paper paper = new Paper(0, new int[0], new Curve[0], null);
-    private int undos = 0;
-    private final Paper[] imagePaper = new Paper[IMAGES];
-    private final int[] imageUndos = new int[IMAGES];
+    private Paper paper = new Paper(0, new int[0], new Curve[0]);
+    private final Past past = new Past();
+    private final Image[] images = new Image[IMAGES];
     private long traced = 0L;
 
     // These rows are made once and used again by every call, so that no question costs room.
@@ -171,13 +170,12 @@ public final class PetalWheels {
     }
 
     public int undo() {
-        Paper before = paper.before;
-        if (undos <= 0 || before == null) {
+        Paper before = past.takesLatest();
+        if (before == null) {
             return STATE;
         }
         paper = before;
-        undos--;
-        return undos;
+        return past.known;
     }
 
     public int now(int what) {
@@ -362,8 +360,7 @@ public final class PetalWheels {
         if (!within(image, 0, IMAGES - 1)) {
             return BAD;
         }
-        imagePaper[image] = paper;
-        imageUndos[image] = undos;
+        images[image] = new Image(paper, past);
         return paper.curves.length;
     }
 
@@ -371,12 +368,12 @@ public final class PetalWheels {
         if (!within(image, 0, IMAGES - 1)) {
             return BAD;
         }
-        Paper kept = imagePaper[image];
+        Image kept = images[image];
         if (kept == null) {
             return STATE;
         }
-        paper = kept;
-        undos = imageUndos[image];
+        paper = kept.paper;
+        past.becomes(kept.past);
         return paper.curves.length;
     }
 
@@ -391,7 +388,7 @@ public final class PetalWheels {
             case 3:
                 return sights.seen;
             case 4:
-                return undos;
+                return past.known;
             case 5:
                 return text.length;
             default:
@@ -435,19 +432,18 @@ public final class PetalWheels {
     /** THE TRACE goes on: it is not among what reading anew takes away. */
     private void startAnew(Box next) {
         told = next;
-        paper = new Paper(0, next.inkTold(), new Curve[0], null);
-        undos = 0;
+        paper = new Paper(0, next.inkTold(), new Curve[0]);
+        past.empties();
         inkRowNoted = false;
         sights.empties();
         for (int i = 0; i < IMAGES; i++) {
-            imagePaper[i] = null;
-            imageUndos[i] = 0;
+            images[i] = null;
         }
     }
 
     private void changeTo(Paper next) {
+        past.adds(paper);
         paper = next;
-        undos = Math.min(undos + 1, MOST_UNDOS);
     }
 
     // ---- what shows
@@ -935,18 +931,16 @@ public final class PetalWheels {
         }
     }
 
-    /** How THE PAPER LIES, INK and CURVES. It never changes: a change makes the next one, and to undo is to go back. */
+    /** How THE PAPER LIES, INK and CURVES. It never changes: a change makes the next one. */
     private static final class Paper {
         private final int lies;
         private final int[] ink;
         private final Curve[] curves;
-        private final Paper before;
 
-        Paper(int lies, int[] ink, Curve[] curves, Paper before) {
+        Paper(int lies, int[] ink, Curve[] curves) {
             this.lies = lies;
             this.ink = ink;
             this.curves = curves;
-            this.before = before;
         }
 
         int inkOf(int p) {
@@ -973,7 +967,7 @@ public final class PetalWheels {
                 more[k] = curves[k];
             }
             more[curves.length] = c;
-            return new Paper(lies, inkWith(c.pen, inkOf(c.pen) - length), more, this);
+            return new Paper(lies, inkWith(c.pen, inkOf(c.pen) - length), more);
         }
 
         Paper rubbed(int k) {
@@ -981,16 +975,16 @@ public final class PetalWheels {
             for (int i = 0; i < fewer.length; i++) {
                 fewer[i] = curves[i < k ? i : i + 1];
             }
-            return new Paper(lies, ink, fewer, this);
+            return new Paper(lies, ink, fewer);
         }
 
         Paper turned(int n) {
-            return new Paper(rest(lies + n, POINTS), ink, curves, this);
+            return new Paper(rest(lies + n, POINTS), ink, curves);
         }
 
         Paper filled(int p, int n) {
             int[] more = inkWith(p, Math.min(inkOf(p) + n, MOST_INK));
-            return new Paper(lies, more, curves, this);
+            return new Paper(lies, more, curves);
         }
 
         private int[] inkWith(int p, int n) {
@@ -999,6 +993,63 @@ public final class PetalWheels {
                 next[p] = n;
             }
             return next;
+        }
+    }
+
+    /** What may be UNDONE: the papers ahead of the latest changes, the oldest first. Older ones are let go. */
+    private static final class Past {
+        private final Paper[] papers = new Paper[MOST_UNDOS];
+        private int known = 0;
+
+        void adds(Paper before) {
+            if (known >= MOST_UNDOS) {
+                losesOldest();
+            }
+            papers[known] = before;
+            known++;
+        }
+
+        private void losesOldest() {
+            for (int i = 1; i < MOST_UNDOS; i++) {
+                papers[i - 1] = papers[i];
+            }
+            known = MOST_UNDOS - 1;
+        }
+
+        /** The paper ahead of the latest change, which is known no more; null, if there is none. */
+        Paper takesLatest() {
+            if (known <= 0) {
+                return null;
+            }
+            known--;
+            Paper latest = papers[known];
+            papers[known] = null;
+            return latest;
+        }
+
+        void empties() {
+            for (int i = 0; i < MOST_UNDOS; i++) {
+                papers[i] = null;
+            }
+            known = 0;
+        }
+
+        void becomes(Past other) {
+            for (int i = 0; i < MOST_UNDOS; i++) {
+                papers[i] = other.papers[i];
+            }
+            known = other.known;
+        }
+    }
+
+    /** What is kept of NOW. Its past is a copy, as that of NOW goes on. */
+    private static final class Image {
+        private final Paper paper;
+        private final Past past = new Past();
+
+        Image(Paper paper, Past past) {
+            this.paper = paper;
+            this.past.becomes(past);
         }
     }
 
